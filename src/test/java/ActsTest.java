@@ -14,6 +14,7 @@ public final class ActsTest {
         promise32StandsByDeputies();
         promise32OrderWithinAnHour();
         promise33Fault();
+        promise33WhatWasNotThere();
         promise33ByTheAmountItWasMadeWith();
         promise34Standing();
         promise35PieceOf();
@@ -302,6 +303,21 @@ public final class ActsTest {
         Expect.fails("33 record", Expect.INDEX, () -> x.fault(1, 3));
         Expect.fails("33 record below", Expect.INDEX, () -> x.fault(1, -1));
         Expect.fails("33 record of another kiosk", Expect.INDEX, () -> x.fault(0, 0));
+    }
+
+    private static void promise33WhatWasNotThere() {
+        NotaryKiosk x = new NotaryKiosk();
+        x.join(0, 1);
+        x.depute(1, 0, 100);
+        x.grant(1, 1, 2);
+        x.act(1, 2, 0, 1);
+        x.pass(1);
+        x.read(1);
+        Expect.is("28 the deputation is read, no act is lost", x.done(1, 0), 1);
+        Expect.is("29 nor by all news", x.beyond(0), 0);
+        Expect.is("33 the deputation had not come", x.fault(1, 0), 0);
+        Expect.is("30 the deputation is read", x.against(1, 2, 0, 1), 8);
+        Expect.is("33 it had not come, all the same", x.fault(1, 0), 0);
     }
 
     private static void promise33ByTheAmountItWasMadeWith() {

@@ -25,13 +25,19 @@ final class Expect {
         is(what, told(call), want.getSimpleName());
     }
 
-    /** What a call answers, or the name of what it throws. */
+    /** What a call answers, or the name of what it throws by a throw of its own. */
     static String told(Call call) {
         try {
             return String.valueOf(call.answer());
         } catch (RuntimeException thrown) {
-            return thrown.getClass().getSimpleName();
+            String name = thrown.getClass().getSimpleName();
+            return isThrownByTheLibrary(thrown) ? name + " of the library" : name;
         }
+    }
+
+    private static boolean isThrownByTheLibrary(RuntimeException thrown) {
+        StackTraceElement[] trace = thrown.getStackTrace();
+        return trace.length == 0 || trace[0].getClassName().matches("(java|jdk)\\..*");
     }
 
     /**
