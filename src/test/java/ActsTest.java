@@ -43,7 +43,8 @@ public final class ActsTest {
         Expect.is("11 of the kind 0 again", x.part(0, 3, 2), 0);
         int[][] wrong = {{-1, 0}, {2, 0}, {0, -1}, {0, 6}, {2, 6}};
         for (int[] row : wrong) {
-            Expect.changesNothing("11 out of range", Expect.ARGUMENT, ActsTest::prepareTheOther, y -> y.prepare(row[0], row[1]));
+            Expect.changesNothing("11 out of range", Expect.ARGUMENT, ActsTest::prepareTheOther,
+                    y -> y.prepare(row[0], row[1]));
         }
     }
 

@@ -43,10 +43,14 @@ public final class FaceTest {
     }
 
     private static String declared(Method method) {
-        String types = Stream.of(method.getParameterTypes()).map(Class::getSimpleName).collect(Collectors.joining(", "));
-        String thrown = Stream.of(method.getExceptionTypes()).map(Class::getSimpleName).collect(Collectors.joining(", "));
+        String types = names(method.getParameterTypes());
+        String thrown = names(method.getExceptionTypes());
         return "public " + method.getReturnType().getSimpleName() + " " + method.getName() + "(" + types + ")"
                 + (thrown.isEmpty() ? "" : " throws " + thrown);
+    }
+
+    private static String names(Class<?>[] types) {
+        return Stream.of(types).map(Class::getSimpleName).collect(Collectors.joining(", "));
     }
 
     private static void nothingElseIsSeenFromOutside() {

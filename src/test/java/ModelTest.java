@@ -1,3 +1,5 @@
+import java.util.Arrays;
+
 /**
  * Long runs of calls on the program and on the model of it, answer by answer. The calls are drawn
  * by a counter of its own, so that every run of this test is the same.
@@ -58,7 +60,7 @@ public final class ModelTest {
             String got = Expect.told(() -> onProgram(op, a));
             count(op, want);
             if (!want.equals(got)) {
-                Expect.is("run " + number + ", call " + call + ", " + NAMES[op] + java.util.Arrays.toString(a), got, want);
+                Expect.is("run " + number + ", call " + call + ", " + NAMES[op] + Arrays.toString(a), got, want);
                 return;
             }
         }
@@ -162,12 +164,12 @@ public final class ModelTest {
             case "grant": return new int[] {kiosk, pick(10), pick(10)};
             case "passOn": return drawPassOn(power);
             case "revoke": return new int[] {kioskFor(power), giverOf(power), power};
-            case "depute": return new int[] {kiosk, oneIn(15) ? draw(105) - 2 : draw(6), oneIn(15) ? draw(105) - 2 : draw(6)};
+            case "depute": return new int[] {kiosk, hoursToDepute(), hoursToDepute()};
             case "prepare": return new int[] {oneIn(20) ? draw(4) - 1 : draw(5) / 4, oneIn(25) ? draw(9) - 1 : draw(2)};
             case "act": case "against": return drawAct(power);
             case "choices": return new int[] {kiosk, pick(10), amount()};
-            case "tamper": return new int[] {kiosk, record, oneIn(2) && isIn(kiosk, record) ? model.amountMade(kiosk, record) : amount()};
-            case "copy": return new int[] {kiosk, Math.min(record, recordOf(kiosk)), record, oneIn(4) ? draw(68) - 2 : draw(8)};
+            case "tamper": return new int[] {kiosk, record, amountToTell(kiosk, record)};
+            case "copy": return new int[] {kiosk, Math.min(record, recordOf(kiosk)), record, partsToLeaveOut()};
             case "forge": return new int[] {copy, place, pick(6), oneIn(3) ? amount() : draw(12)};
             case "came": case "cameByLinks": case "isRead": return new int[] {kiosk, pick(model.news())};
             case "source": case "holder": case "beyond": return new int[] {power};
@@ -178,6 +180,18 @@ public final class ModelTest {
             case "stands": case "fault": case "pieceOf": case "seal": return new int[] {kiosk, record};
             default: return new int[] {kiosk, kiosk()};
         }
+    }
+
+    private static int hoursToDepute() {
+        return oneIn(15) ? draw(105) - 2 : draw(6);
+    }
+
+    private static int partsToLeaveOut() {
+        return oneIn(4) ? draw(68) - 2 : draw(8);
+    }
+
+    private int amountToTell(int kiosk, int record) {
+        return oneIn(2) && isIn(kiosk, record) ? model.amountMade(kiosk, record) : amount();
     }
 
     private boolean isIn(int kiosk, int record) {
