@@ -144,9 +144,10 @@ final class ActsSentences {
         Expect.changesNothing("160", Expect.STATE, Made.withNews(160), y -> y.act(0, 2, 0, 1));
     }
 
-    /** There is one power, of the person 9 at the kiosk 2, as the draft tells. */
+    /** There is one power, of the person 9 at the kiosk 2, as the draft tells; the next acts are of the kind 3. */
     private static Consumer<NotaryKiosk> granted(int scope, int limit, int total, int hours) {
         return y -> {
+            y.prepare(0, 3);
             y.draft(scope, limit, total, hours, 0);
             y.grant(2, 1, 9);
         };
@@ -163,15 +164,15 @@ final class ActsSentences {
         isRefused(2, y -> y.grant(2, 9, 1));
         isRefused(3, granted(63, 100, 100, 9).andThen(y -> y.revoke(2, 1, 0)));
         isRefused(4, granted(63, 100, 100, 2).andThen(y -> y.pass(3)));
-        isRefused(5, granted(62, 100, 100, 9));
+        isRefused(5, granted(63 - 8, 100, 100, 9));
         isRefused(6, granted(63, 9, 100, 9));
         isRefused(7, granted(63, 100, 9, 9));
-        isRefused(8, granted(63, 100, 100, 9).andThen(y -> y.prepare(1, 0)));
+        isRefused(8, granted(63, 100, 100, 9).andThen(y -> y.prepare(1, 3)));
     }
 
     static void promise12NoReasonAgainstIt() {
         Document.says(12, ACT_NOW);
-        Consumer<NotaryKiosk> narrow = granted(1, 10, 10, 3).andThen(y -> y.pass(3));
+        Consumer<NotaryKiosk> narrow = granted(8, 10, 10, 3).andThen(y -> y.pass(3));
         Expect.is("all of it is just within", Made.by(narrow).act(2, 9, 0, 10), 0);
     }
 
@@ -385,6 +386,26 @@ final class ActsSentences {
         Expect.is("no longer", deputed.fault(1, 1), 0);
     }
 
+    /** Whatever was asked ahead of it, and whichever piece it is, even the first one of all. */
+    static void promise33ByTheHoursAtWhichNewsCame() {
+        Document.says(33, FAULT);
+        NotaryKiosk x = new NotaryKiosk();
+        x.join(0, 1);
+        x.depute(1, 0, 100);
+        x.grant(1, 1, 2);
+        x.act(1, 2, 0, 1);
+        x.pass(1);
+        Expect.is("the deputation came behind it", x.fault(1, 0), 0);
+        x.read(1);
+        Expect.is("by now it is read", x.against(1, 2, 0, 1), 8);
+        Expect.is("it came behind it, though it is read", x.fault(1, 0), 0);
+        Expect.is("by all news", x.beyond(0), 0);
+        Expect.is("it came behind it, though it is news", x.fault(1, 0), 0);
+        x.prepare(1, 0);
+        x.act(1, 2, 0, 1);
+        Expect.is("nothing but the act itself is behind it", x.fault(1, 1), 0);
+    }
+
     static void promise33NoSuchKioskOrRecord() {
         Document.says(33, NO_SUCH_RECORD);
         Calls.noSuch("fault");
@@ -401,6 +422,12 @@ final class ActsSentences {
         Expect.is("for good", x.standing(), 3);
         Expect.is("two of three", Made.by(ActsSentences::doneElsewhere).standing(), 2);
         Expect.is("all of 159", Made.by(Made.withNews(160)).standing(), 159);
+        NotaryKiosk all = new NotaryKiosk();
+        for (int kiosk = 0; kiosk < 6; kiosk++) {
+            all.grant(kiosk, 1, 2);
+            all.act(kiosk, 2, kiosk, 1);
+            Expect.is("one at each kiosk", all.standing(), kiosk + 1);
+        }
     }
 
     // ---- promises 35 to 38

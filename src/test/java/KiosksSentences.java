@@ -248,6 +248,19 @@ final class KiosksSentences {
         Expect.is("goes on", x.came(5, 0), 5);
     }
 
+    static void promise4FromEachKioskToEachOther() {
+        Document.says(4, "Lets hours pass, one after the other.");
+        for (int from = 0; from < 6; from++) {
+            NotaryKiosk x = Made.by(Made::joinedInARow);
+            x.grant(from, 1, 2);
+            Expect.is("to the five others", x.pass(5), 5);
+            for (int to = 0; to < 6; to++) {
+                Expect.is(from + " to " + to, x.came(to, 0), Math.abs(from - to));
+                Expect.is(from + " to " + to + " by links", x.cameByLinks(to, 0), Math.abs(from - to));
+            }
+        }
+    }
+
     static void promise4OneTo50Hours() {
         Document.says(4, "- `hours`: 1 to 50");
         NotaryKiosk x = new NotaryKiosk();

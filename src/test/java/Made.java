@@ -62,8 +62,8 @@ final class Made {
     }
 
     static void passTo(NotaryKiosk y, int hour) {
-        while (y.hour() < hour) {
-            y.pass(Math.min(50, hour - y.hour()));
+        for (int left = hour - y.hour(); left > 0; left -= 50) {
+            y.pass(Math.min(50, left));
         }
     }
 

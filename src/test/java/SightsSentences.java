@@ -396,14 +396,12 @@ final class SightsSentences {
         for (int power = 0; power < 4; power++) {
             Expect.is("nothing", x.done(0, power), 0);
         }
-        actsOfALineAreDone(Made.by(SightsSentences::actsInALine));
-    }
-
-    private static void actsOfALineAreDone(NotaryKiosk x) {
+        NotaryKiosk acts = Made.by(SightsSentences::actsInALine);
         int[] done = {15, 14, 12, 8};
         for (int power = 0; power < 4; power++) {
-            Expect.is("by it and what was passed on from it, " + power, x.done(0, power), done[power]);
+            Expect.is("by it and what was passed on from it, " + power, acts.done(0, power), done[power]);
         }
+        Expect.is("as many acts as there can be", Made.by(Made.withNews(160)).done(0, 0), 159);
     }
 
     static void promise28ByWhatAKioskHasRead() {

@@ -170,6 +170,23 @@ final class TermsSentences {
         Expect.is("the last one is there", x.came(0, 159), 0);
     }
 
+    /** The last piece there can be counts as every other one does. */
+    static void termsThePiece159Counts() {
+        Document.says(Document.TERMS, PIECES);
+        NotaryKiosk power = Made.by(Made.withNews(159));
+        power.grant(0, 1, 3);
+        Expect.is("a power", power.isGood(0, 1), true);
+        NotaryKiosk revocation = Made.by(Made.withNews(159));
+        revocation.revoke(0, 1, 0);
+        Expect.is("a revocation", revocation.isGood(0, 0), false);
+        NotaryKiosk deputation = Made.by(Made.withNews(159));
+        deputation.depute(0, 0, 0);
+        Expect.is("a deputation", deputation.against(0, 2, 0, 1), 8);
+        NotaryKiosk act = Made.by(Made.withNews(160));
+        Expect.is("an act", act.done(0, 0), 159);
+        Expect.is("it stands", act.fault(0, 158), 0);
+    }
+
     static void termsComeAndReadAtOnceWhereItIsMade() {
         Document.says(Document.TERMS, AT_ONCE);
         NotaryKiosk x = Made.by(Made.inTheHour(2));
@@ -552,7 +569,7 @@ final class TermsSentences {
         Document.says(Document.TERMS, AN_ACT);
         for (int amount : new int[] {Integer.MIN_VALUE, -1, 0, 10001, Integer.MAX_VALUE}) {
             Expect.changesNothing("act " + amount, Expect.ARGUMENT, Made::someOfAll, y -> y.act(1, 2, 0, amount));
-            Expect.changesNothing("reason " + amount, Expect.ARGUMENT, Made::someOfAll, y -> y.against(1, 2, 0, amount));
+            Expect.changesNothing("why " + amount, Expect.ARGUMENT, Made::someOfAll, y -> y.against(1, 2, 0, amount));
             Expect.changesNothing("choices " + amount, Expect.ARGUMENT, Made::someOfAll, y -> y.choices(1, 2, amount));
         }
     }
